@@ -24,9 +24,8 @@ public final class TurningWheel {
     private final int[] text = new int[MOST_LETTERS];
     private int letters = 0;
     private int faultPlace = NONE;
-    private final Reader reader = new Reader();
+    private final Reader reader = new Reader(text);
     private Castle plan = new Castle();
-    private Castle spare = new Castle();
     private final Affairs now = new Affairs();
     private final History history = new History();
     private final Hearsay hearsay = new Hearsay();
@@ -55,16 +54,14 @@ public final class TurningWheel {
     }
 
     public int castle() {
-        int kind = reader.readText(text, letters, spare);
+        int kind = reader.readText(letters);
         letters = 0;
         if (kind != Reader.NO_FAULT) {
             faultPlace = reader.place;
             return -10 - kind;
         }
         faultPlace = NONE;
-        Castle old = plan;
-        plan = spare;
-        spare = old;
+        plan = reader.exchange(plan);
         beginAnew();
         return plan.ways;
     }
@@ -602,7 +599,7 @@ public final class TurningWheel {
         static final int MOST_FIGURES = 3;
         static final int ALL_WAYS = 255;
 
-        private int[] letters = new int[0];
+        private final int[] letters;
         private int length = 0;
         private int at = 0;
         private Castle into = new Castle();
@@ -612,24 +609,22 @@ public final class TurningWheel {
         private int kind = NO_FAULT;
         int place = NONE;
 
-        /** The number of the fault, whose place is kept; a text of blanks alone leaves the castle cleared. */
-        int readText(int[] text, int count, Castle castle) {
+        Reader(int[] text) {
             letters = text;
-            length = Math.min(count, text.length);
+        }
+
+        /** The number of the fault, whose place is kept; a text of blanks alone leaves the castle cleared. */
+        int readText(int count) {
+            length = Math.min(count, letters.length);
             at = 0;
-            into = castle;
             payTold = false;
             kind = NO_FAULT;
             place = NONE;
             into.clear();
             skipBlanks();
-            if (at < length) {
-                readClauses();
+            if (at >= length) {
+                return NO_FAULT;
             }
-            return kind;
-        }
-
-        private void readClauses() {
             into.pay = 1;
             into.every = 1;
             boolean fine = readWays();
@@ -637,6 +632,14 @@ public final class TurningWheel {
             for (int i = 0; i < MOST_LETTERS && fine && at < length; i++) {
                 fine = readClause();
             }
+            return kind;
+        }
+
+        /** Hands out the castle that was read; the old one is room for the next. */
+        Castle exchange(Castle old) {
+            Castle read = into;
+            into = old;
+            return read;
         }
 
         private boolean readWays() {
@@ -777,7 +780,7 @@ public final class TurningWheel {
         }
 
         private static boolean isFigure(int letter) {
-            return within(letter, '0', '9');
+            return letter >= '0' && letter <= '9';
         }
 
         private boolean refuse(int faultKind, int faultAt) {
