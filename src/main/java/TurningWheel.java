@@ -21,10 +21,8 @@ public final class TurningWheel {
     private static final int IMAGES = 2;
     private static final int WORTH_BASE = 100000;
 
-    private final int[] text = new int[MOST_LETTERS];
-    private int letters = 0;
     private int faultPlace = NONE;
-    private final Reader reader = new Reader(text);
+    private final Reader reader = new Reader();
     private Castle plan = new Castle();
     private final Affairs now = new Affairs();
     private final History history = new History();
@@ -45,17 +43,11 @@ public final class TurningWheel {
         if (!within(letter, 0, 255)) {
             return OUTSIDE;
         }
-        if (letters >= MOST_LETTERS) {
-            return FULL;
-        }
-        text[letters] = letter;
-        letters++;
-        return letters;
+        return reader.add(letter) ? reader.count : FULL;
     }
 
     public int castle() {
-        int kind = reader.readText(letters);
-        letters = 0;
+        int kind = reader.readText();
         if (kind != Reader.NO_FAULT) {
             faultPlace = reader.place;
             return -10 - kind;
@@ -75,7 +67,7 @@ public final class TurningWheel {
             case 0: return plan.ways;
             case 1: return plan.tests;
             case 2: return plan.servants;
-            case 3: return letters;
+            case 3: return reader.count;
             case 4: return plan.pay;
             case 5: return plan.every;
             case 6: return now.days;
@@ -588,7 +580,7 @@ public final class TurningWheel {
         }
     }
 
-    /** Reads a text into a castle, up to its first fault. */
+    /** The text, and how it is read into a castle, up to its first fault. */
     private static final class Reader {
         static final int NO_FAULT = 0;
         static final int MISPLACED = 1;
@@ -599,7 +591,8 @@ public final class TurningWheel {
         static final int MOST_FIGURES = 3;
         static final int ALL_WAYS = 255;
 
-        private final int[] letters;
+        private final int[] letters = new int[MOST_LETTERS];
+        int count = 0;
         private int length = 0;
         private int at = 0;
         private Castle into = new Castle();
@@ -609,13 +602,19 @@ public final class TurningWheel {
         private int kind = NO_FAULT;
         int place = NONE;
 
-        Reader(int[] text) {
-            letters = text;
+        boolean add(int letter) {
+            if (count >= MOST_LETTERS) {
+                return false;
+            }
+            letters[count] = letter;
+            count++;
+            return true;
         }
 
         /** The number of the fault, whose place is kept; a text of blanks alone leaves the castle cleared. */
-        int readText(int count) {
-            length = Math.min(count, letters.length);
+        int readText() {
+            length = count;
+            count = 0;
             at = 0;
             payTold = false;
             kind = NO_FAULT;

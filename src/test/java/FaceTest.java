@@ -70,11 +70,31 @@ public final class FaceTest {
     private static void nested(Check check) {
         Class<?>[] classes = TurningWheel.class.getDeclaredClasses();
         check.due("at most twelve classes", classes.length <= 11 ? 1 : 0, 1);
+        form(check, TurningWheel.class);
         for (Class<?> inside : classes) {
+            form(check, inside);
             int modifiers = inside.getModifiers();
             check.due("static " + inside, Modifier.isStatic(modifiers) ? 1 : 0, 1);
             check.due("hidden " + inside, Modifier.isPublic(modifiers) || Modifier.isProtected(modifiers) ? 1 : 0, 0);
             check.due("fields of " + inside, inside.getDeclaredFields().length <= 20 ? 1 : 0, 1);
+        }
+    }
+
+    /** What LANGUAGE.md says of every class: constants alone are static, no method takes more than seven, names are apart. */
+    private static void form(Check check, Class<?> one) {
+        Set<Class<?>> constants = Set.of(int.class, long.class, boolean.class, char.class, String.class,
+            int[].class, long[].class, char[].class, byte[].class);
+        for (Field field : one.getDeclaredFields()) {
+            boolean fixed = Modifier.isFinal(field.getModifiers()) && constants.contains(field.getType());
+            check.due(one + " static " + field.getName(), !Modifier.isStatic(field.getModifiers()) || fixed ? 1 : 0, 1);
+        }
+        for (Method method : one.getDeclaredMethods()) {
+            check.due(one + " parameters of " + method.getName(), method.getParameterCount() <= 7 ? 1 : 0, 1);
+            boolean apart = one == TurningWheel.class;
+            for (String face : METHODS) {
+                apart |= face.startsWith(method.getName() + "(");
+            }
+            check.due(one + " name " + method.getName(), apart == (one == TurningWheel.class) ? 1 : 0, 1);
         }
     }
 
@@ -84,5 +104,6 @@ public final class FaceTest {
         for (String barred : BARRED) {
             check.due("source with " + barred, java.util.regex.Pattern.compile(barred).matcher(code).find() ? 1 : 0, 0);
         }
+        check.due("signs above 127", text.chars().filter(sign -> sign > 127).count(), 0);
     }
 }

@@ -1,3 +1,5 @@
+import java.util.List;
+
 /** Counts the calls whose answer is not the one that is due. */
 final class Check {
     private final String name;
@@ -14,6 +16,19 @@ final class Check {
             wrong++;
             System.out.println(name + ": " + call + " answered " + got + ", due is " + want);
         }
+    }
+
+    /** Two traces, line by line alike, but for lines that begin as told. */
+    void alike(String when, List<String> is, List<String> want, String but) {
+        due(when + ": lines", is.size(), want.size());
+        for (int i = 0; i < Math.min(is.size(), want.size()); i++) {
+            boolean same = is.get(i).equals(want.get(i)) || is.get(i).startsWith(but);
+            due(when + ", then " + is.get(i) + ", it must be: " + want.get(i) + ": alike", same ? 1 : 0, 1);
+        }
+    }
+
+    void alike(String when, TurningWheel is, TurningWheel want) {
+        alike(when, Trace.of(is), Trace.of(want), "nothing else");
     }
 
     void end() {
